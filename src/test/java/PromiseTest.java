@@ -14,6 +14,7 @@ public final class PromiseTest {
         cut();
         cutLimits();
         glue();
+        glueOneOfThree();
         glueRefused();
         read();
         readLimit();
@@ -262,11 +263,26 @@ public final class PromiseTest {
         x.tape();
         x.read(2, 0, 7);
         due("glue: nothing new", x.glue(0, 2), 10);
+        x.tape();
+        x.read(2, 2, 50);
+        x.read(2, 8, 8);
+        due("glue: the first one goes", x.glue(2, 0), 12);
+        CHECK.dueText("glue: it gets lower numbers", written(x, 1), "1a=20,1b=30,1c=50,1i=8");
         due("glue: the same", x.glue(0, 0), -1);
         due("glue: -1", x.glue(-1, 0), -1);
         due("glue: other -1", x.glue(0, -1), -1);
         due("glue: none", x.glue(2, 0), -1);
         due("glue: other none", x.glue(0, 2), -1);
+    }
+
+    private static void glueOneOfThree() {
+        LostZeros x = withTapes(3);
+        x.read(0, 0, 10);
+        x.read(0, 1, 1);
+        x.read(1, 0, 200);
+        x.read(2, 0, 300);
+        due("glue: one of three", x.glue(1, 0), 11);
+        CHECK.dueText("glue: the second of three", written(x, 0), "0a=200,0b=191");
     }
 
     private static void glueRefused() {
@@ -449,6 +465,8 @@ public final class PromiseTest {
         LostZeros x = withTapes(2);
         put(x, "0a=1,1a=-4,0b=999,1l=0");
         due("take: all", x.take(), 4);
+        due("take: none refused", x.count(9), 0);
+        due("take: no stop", x.why(0), -4);
         due("take: pad is empty", x.count(12), 0);
         CHECK.dueText("take: first tape", written(x, 0), "0a=1,0b=999");
         CHECK.dueText("take: second tape", written(x, 1), "1a=-4,1l=0");
@@ -676,6 +694,11 @@ public final class PromiseTest {
         for (int way = 0; way <= 1; way++) {
             due("holding: none", x.holding(way), 0);
         }
+        x.read(0, 0, 0);
+        for (int way = 0; way <= 1; way++) {
+            due("holding: one", x.holding(way), 1);
+        }
+        x.lose(0, 0);
         // Two rings, joined by the tape 2 between the points 1 and 4, and an end at 9.
         x.read(0, 0, 0);
         x.read(0, 1, 1);
@@ -742,6 +765,19 @@ public final class PromiseTest {
         due("point: the greatest last", x.point(8, 2), 3);
         due("point: ahead of all", x.point(10, 2), 0);
         due("point: all one far", x.point(8, 3), 1);
+        x.read(0, 0, -50);
+        x.read(0, 1, -50);
+        due("point: 0 ahead of all", x.point(0, 2), 0);
+        due("point: 1 behind it", x.point(1, 2), 1);
+        due("point: behind both", x.point(10, 2), 2);
+        due("point: far from 0", x.point(10, 3), 54);
+        due("count: clusters without the point 0", x.count(2), 7);
+        x.lose(0, 1);
+        due("point: far from 0 alone", x.point(10, 3), 54);
+        x.shift(0, 50);
+        x.lose(0, 0);
+        x.read(0, 0, 200);
+        due("count: far to the point 0", x.count(5), 146);
     }
 
     private static void tapeOf() {
@@ -766,6 +802,18 @@ public final class PromiseTest {
         due("tapeOf: none, greatest", x.tapeOf(3, 2), -4);
         due("tapeOf: none, spread", x.tapeOf(3, 3), 0);
         due("tapeOf: none, together", x.tapeOf(3, 4), 1);
+        x.lose(1, 3);
+        due("tapeOf: together no more", x.tapeOf(0, 4), 1);
+        x.read(3, 0, 4);
+        x.read(3, 6, 3);
+        x.read(3, 9, 4);
+        due("tapeOf: least behind the greatest", x.tapeOf(3, 1), 6);
+        due("tapeOf: greatest at the point 0", x.tapeOf(3, 2), 0);
+        x.shift(3, -4);
+        due("tapeOf: spread below 0", x.tapeOf(3, 3), 1);
+        x.read(3, 1, 50);
+        x.lose(3, 6);
+        due("tapeOf: least at the point 0", x.tapeOf(3, 1), 0);
         due("tapeOf: what -1", x.tapeOf(0, -1), -1);
         due("tapeOf: what 5", x.tapeOf(0, 5), -1);
         due("tapeOf: -1", x.tapeOf(-1, 0), -1);
@@ -812,6 +860,10 @@ public final class PromiseTest {
         due("count: cuts, second", x.count(10), 2);
         put(x, "0");
         due("count: pad", x.count(12), 1);
+        x = withTapes(1);
+        x.read(0, 3, -500);
+        x.read(0, 4, -510);
+        due("count: points, not zeros, are far", x.count(5), 10);
     }
 
     private static void known() {
@@ -856,6 +908,12 @@ public final class PromiseTest {
     private static void bestReading() {
         LostZeros x = withTapes(3);
         due("bestReading: none tells", x.bestReading(), 0);
+        x.read(0, 7, 5);
+        due("bestReading: of the tape 0", x.bestReading(), 0);
+        x.read(2, 8, 5);
+        x.read(2, 9, 5);
+        due("bestReading: of the tape 0, at another point", x.bestReading(), 8);
+        x = withTapes(3);
         x.read(2, 5, 0);
         due("bestReading: one point", x.bestReading(), 24);
         x.read(1, 0, 0);
@@ -896,15 +954,14 @@ public final class PromiseTest {
         x.read(1, 1, 0);
         x.save();
         x.read(2, 2, 2);
+        x.shift(0, 0);
+        due("undo: room for one state", x.undo(), 3);
         String before = told(x);
         for (int change = 0; change < 16; change++) {
-            int states = x.count(13);
             due("undo: the change " + change, change(x, change) >= 0 ? 1 : 0, 1);
-            due("undo: states then", x.count(13), 4);
+            due("undo: states with the change " + change, x.count(13), 4);
             due("undo: states after it", x.undo(), 3);
             CHECK.dueText("undo: after the change " + change, told(x), before);
-            due("undo: at most four", states <= 4 ? 1 : 0, 1);
-            x.shift(0, 0);
         }
     }
 
