@@ -58,46 +58,6 @@ public final class PromiseTest {
         CHECK.due(what, got, want);
     }
 
-    private static LostZeros withTapes(int tapes) {
-        LostZeros x = new LostZeros();
-        for (int tape = 0; tape < tapes; tape++) {
-            x.tape();
-        }
-        return x;
-    }
-
-    private static void put(LostZeros x, String text) {
-        for (int place = 0; place < text.length(); place++) {
-            x.append(text.charAt(place));
-        }
-    }
-
-    private static int faultOf(String text) {
-        LostZeros x = new LostZeros();
-        put(x, text);
-        return x.fault();
-    }
-
-    private static String written(LostZeros x, int tape) {
-        StringBuilder text = new StringBuilder();
-        for (int place = 0; x.sign(tape, place) > 0; place++) {
-            text.append((char) x.sign(tape, place));
-        }
-        return text.toString();
-    }
-
-    /** All that undo and the snapshot bring back, told as a text. */
-    private static String told(LostZeros x) {
-        StringBuilder text = new StringBuilder();
-        for (int tape = 0; tape < x.count(0); tape++) {
-            text.append(written(x, tape)).append(';');
-        }
-        for (int what = 8; what <= 11; what++) {
-            text.append(' ').append(x.count(what));
-        }
-        return text.toString();
-    }
-
     private static void constants() {
         due("INVALID_ARGUMENT", LostZeros.INVALID_ARGUMENT, -1);
         due("NOT_POSSIBLE", LostZeros.NOT_POSSIBLE, -2);
@@ -135,7 +95,7 @@ public final class PromiseTest {
     }
 
     private static void drop() {
-        LostZeros x = withTapes(2);
+        LostZeros x = Ready.withTapes(2);
         x.read(0, 0, 5);
         x.read(0, 1, 6);
         x.read(1, 1, 7);
@@ -154,14 +114,14 @@ public final class PromiseTest {
     }
 
     private static void dropRenumbers() {
-        LostZeros x = withTapes(8);
+        LostZeros x = Ready.withTapes(8);
         for (int tape = 0; tape < 8; tape++) {
             x.read(tape, tape, 100 + tape);
         }
         due("drop: one of eight", x.drop(2), 1);
-        CHECK.dueText("drop: ahead of it", written(x, 1), "1b=101");
-        CHECK.dueText("drop: behind it", written(x, 2), "2d=103");
-        CHECK.dueText("drop: the last", written(x, 6), "6h=107");
+        CHECK.dueText("drop: ahead of it", Ready.written(x, 1), "1b=101");
+        CHECK.dueText("drop: behind it", Ready.written(x, 2), "2d=103");
+        CHECK.dueText("drop: the last", Ready.written(x, 6), "6h=107");
         due("drop: a new one", x.tape(), 7);
         due("drop: a new one has no readings", x.tapeOf(7, 0), 0);
         due("drop: the last of eight", x.drop(7), 0);
@@ -171,7 +131,7 @@ public final class PromiseTest {
     }
 
     private static void shift() {
-        LostZeros x = withTapes(2);
+        LostZeros x = Ready.withTapes(2);
         due("shift: no readings", x.shift(0, 999), 10);
         x.read(0, 0, 0);
         x.read(0, 4, 10);
@@ -198,14 +158,14 @@ public final class PromiseTest {
     }
 
     private static void cut() {
-        LostZeros x = withTapes(1);
+        LostZeros x = Ready.withTapes(1);
         x.read(0, 0, 5);
         x.read(0, 1, 9);
         x.read(0, 2, 10);
         x.read(0, 3, 40);
         due("cut: two go", x.cut(0, 10), 12);
-        CHECK.dueText("cut: what stays", written(x, 0), "0a=5,0b=9");
-        CHECK.dueText("cut: what goes", written(x, 1), "1c=0,1d=30");
+        CHECK.dueText("cut: what stays", Ready.written(x, 0), "0a=5,0b=9");
+        CHECK.dueText("cut: what goes", Ready.written(x, 1), "1c=0,1d=30");
         due("cut: zeros are apart", x.zeros(0, 1), -4);
         due("cut: points are apart", x.difference(0, 3, 1), -4);
         due("cut: cuts", x.count(10), 1);
@@ -223,7 +183,7 @@ public final class PromiseTest {
     }
 
     private static void cutLimits() {
-        LostZeros x = withTapes(1);
+        LostZeros x = Ready.withTapes(1);
         x.read(0, 0, 999);
         x.read(0, 1, -500);
         due("cut: 1000 on the new one", x.cut(0, -1), 4);
@@ -244,22 +204,22 @@ public final class PromiseTest {
     }
 
     private static void glue() {
-        LostZeros x = withTapes(4);
+        LostZeros x = Ready.withTapes(4);
         x.read(0, 0, 0);
         x.read(0, 1, 10);
         x.read(1, 1, 5);
         x.read(1, 2, 25);
         x.read(3, 7, 70);
         due("glue: one is got", x.glue(0, 1), 11);
-        CHECK.dueText("glue: the longer one", written(x, 0), "0a=0,0b=10,0c=30");
+        CHECK.dueText("glue: the longer one", Ready.written(x, 0), "0a=0,0b=10,0c=30");
         due("glue: tapes", x.count(0), 3);
-        CHECK.dueText("glue: the later ones move up", written(x, 2), "2h=70");
+        CHECK.dueText("glue: the later ones move up", Ready.written(x, 2), "2h=70");
         due("glue: readings", x.count(1), 4);
         due("glue: glued", x.count(11), 1);
         due("glue: no reading is taken", x.count(8), 5);
         x.read(1, 0, 100);
         due("glue: ahead of the one that stays", x.glue(1, 0), 12);
-        CHECK.dueText("glue: it stays at number 0", written(x, 0), "0a=100,0b=110,0c=130");
+        CHECK.dueText("glue: it stays at number 0", Ready.written(x, 0), "0a=100,0b=110,0c=130");
         x.tape();
         x.read(2, 0, 7);
         due("glue: nothing new", x.glue(0, 2), 10);
@@ -267,7 +227,7 @@ public final class PromiseTest {
         x.read(2, 2, 50);
         x.read(2, 8, 8);
         due("glue: the first one goes", x.glue(2, 0), 12);
-        CHECK.dueText("glue: it gets lower numbers", written(x, 1), "1a=20,1b=30,1c=50,1i=8");
+        CHECK.dueText("glue: it gets lower numbers", Ready.written(x, 1), "1a=20,1b=30,1c=50,1i=8");
         due("glue: the same", x.glue(0, 0), -1);
         due("glue: -1", x.glue(-1, 0), -1);
         due("glue: other -1", x.glue(0, -1), -1);
@@ -276,17 +236,17 @@ public final class PromiseTest {
     }
 
     private static void glueOneOfThree() {
-        LostZeros x = withTapes(3);
+        LostZeros x = Ready.withTapes(3);
         x.read(0, 0, 10);
         x.read(0, 1, 1);
         x.read(1, 0, 200);
         x.read(2, 0, 300);
         due("glue: one of three", x.glue(1, 0), 11);
-        CHECK.dueText("glue: the second of three", written(x, 0), "0a=200,0b=191");
+        CHECK.dueText("glue: the second of three", Ready.written(x, 0), "0a=200,0b=191");
     }
 
     private static void glueRefused() {
-        LostZeros x = withTapes(3);
+        LostZeros x = Ready.withTapes(3);
         due("glue: without readings", x.glue(0, 1), 5);
         x.read(0, 0, 0);
         x.read(1, 1, 0);
@@ -301,7 +261,7 @@ public final class PromiseTest {
         x.lose(1, 2);
         x.read(1, 2, 399);
         due("glue: 999, through a third tape", x.glue(0, 1), 12);
-        CHECK.dueText("glue: 999 written", written(x, 0), "0a=0,0b=600,0c=999");
+        CHECK.dueText("glue: 999 written", Ready.written(x, 0), "0a=0,0b=600,0c=999");
         x.tape();
         x.read(2, 0, 999);
         x.read(2, 3, -1);
@@ -313,7 +273,7 @@ public final class PromiseTest {
     }
 
     private static void read() {
-        LostZeros x = withTapes(2);
+        LostZeros x = Ready.withTapes(2);
         due("read: first", x.read(0, 0, -999), 11);
         due("read: second", x.read(0, 11, 999), 12);
         due("read: there already", x.read(0, 0, 3), 1);
@@ -337,18 +297,8 @@ public final class PromiseTest {
         due("read: errors are not counted", x.count(9), 4);
     }
 
-    private static LostZeros withForty() {
-        LostZeros x = withTapes(5);
-        for (int tape = 0; tape < 4; tape++) {
-            for (int point = 0; point < 10; point++) {
-                x.read(tape, point, point * 3 + tape);
-            }
-        }
-        return x;
-    }
-
     private static void readLimit() {
-        LostZeros x = withForty();
+        LostZeros x = Ready.withForty();
         due("limit: readings", x.count(1), 40);
         due("limit: one more", x.read(4, 0, 0), -3);
         due("limit: ahead of the reason 1", x.read(0, 0, 0), -3);
@@ -361,7 +311,7 @@ public final class PromiseTest {
     }
 
     private static void lose() {
-        LostZeros x = withTapes(2);
+        LostZeros x = Ready.withTapes(2);
         x.read(0, 3, 5);
         x.read(0, 4, 6);
         due("lose: left", x.lose(0, 3), 11);
@@ -397,11 +347,11 @@ public final class PromiseTest {
     private static void clear() {
         LostZeros x = new LostZeros();
         due("clear: empty", x.clear(), 0);
-        put(x, "0a=1");
+        Ready.put(x, "0a=1");
         due("clear: four", x.clear(), 4);
         due("clear: nothing left", x.count(12), 0);
         due("clear: no change", x.count(13), 0);
-        put(x, "1");
+        Ready.put(x, "1");
         due("clear: from the first sign again", x.fault(), 1);
         for (int length = 2; length <= 60; length++) {
             x.append('!');
@@ -411,82 +361,81 @@ public final class PromiseTest {
     }
 
     private static void faultOfOneText() {
-        due("fault: empty", faultOf(""), 0);
-        due("fault: tape 8", faultOf("8"), 0);
-        due("fault: tape 7", faultOf("7"), 1);
-        due("fault: sign below 0", faultOf("/"), 0);
-        due("fault: comma first", faultOf(","), 0);
-        due("fault: point m", faultOf("0m=1"), 1);
-        due("fault: point l", faultOf("0l"), 2);
-        due("fault: point A", faultOf("0A"), 1);
-        due("fault: sign ahead of a", faultOf("0`"), 1);
-        due("fault: no equals", faultOf("0a1"), 2);
-        due("fault: no number", faultOf("0a="), 3);
-        due("fault: comma for a number", faultOf("0a=,"), 3);
-        due("fault: tapes need not be there", faultOf("7l=5"), -4);
-        due("fault: the first of several", faultOf("0a=x!!"), 3);
+        due("fault: empty", Ready.faultOf(""), 0);
+        due("fault: tape 8", Ready.faultOf("8"), 0);
+        due("fault: tape 7", Ready.faultOf("7"), 1);
+        due("fault: sign below 0", Ready.faultOf("/"), 0);
+        due("fault: comma first", Ready.faultOf(","), 0);
+        due("fault: point m", Ready.faultOf("0m=1"), 1);
+        due("fault: point l", Ready.faultOf("0l"), 2);
+        due("fault: point A", Ready.faultOf("0A"), 1);
+        due("fault: sign ahead of a", Ready.faultOf("0`"), 1);
+        due("fault: no equals", Ready.faultOf("0a1"), 2);
+        due("fault: no number", Ready.faultOf("0a="), 3);
+        due("fault: comma for a number", Ready.faultOf("0a=,"), 3);
+        due("fault: tapes need not be there", Ready.faultOf("7l=5"), -4);
+        due("fault: the first of several", Ready.faultOf("0a=x!!"), 3);
     }
 
     private static void faultOfNumbers() {
-        due("fault: 0", faultOf("0a=0"), -4);
-        due("fault: -0", faultOf("0a=-0"), 4);
-        due("fault: -", faultOf("0a=-"), 4);
-        due("fault: --", faultOf("0a=--"), 4);
-        due("fault: +", faultOf("0a=+1"), 3);
-        due("fault: 00", faultOf("0a=00"), 4);
-        due("fault: 05", faultOf("0a=05"), 4);
-        due("fault: 9", faultOf("0a=9"), -4);
-        due("fault: 10", faultOf("0a=10"), -4);
-        due("fault: 999", faultOf("0a=999"), -4);
-        due("fault: 1000", faultOf("0a=1000"), 6);
-        due("fault: -999", faultOf("0a=-999"), -4);
-        due("fault: -9990", faultOf("0a=-9990"), 7);
-        due("fault: -01", faultOf("0a=-01"), 4);
-        due("fault: colon is no digit", faultOf("0a=1:"), 4);
-        due("fault: slash is no digit", faultOf("0a=1/"), 4);
-        due("fault: minus behind a digit", faultOf("0a=1-"), 4);
+        due("fault: 0", Ready.faultOf("0a=0"), -4);
+        due("fault: -0", Ready.faultOf("0a=-0"), 4);
+        due("fault: -", Ready.faultOf("0a=-"), 4);
+        due("fault: --", Ready.faultOf("0a=--"), 4);
+        due("fault: +", Ready.faultOf("0a=+1"), 3);
+        due("fault: 00", Ready.faultOf("0a=00"), 4);
+        due("fault: 05", Ready.faultOf("0a=05"), 4);
+        due("fault: 9", Ready.faultOf("0a=9"), -4);
+        due("fault: 10", Ready.faultOf("0a=10"), -4);
+        due("fault: 999", Ready.faultOf("0a=999"), -4);
+        due("fault: 1000", Ready.faultOf("0a=1000"), 6);
+        due("fault: -999", Ready.faultOf("0a=-999"), -4);
+        due("fault: -9990", Ready.faultOf("0a=-9990"), 7);
+        due("fault: -01", Ready.faultOf("0a=-01"), 4);
+        due("fault: colon is no digit", Ready.faultOf("0a=1:"), 4);
+        due("fault: slash is no digit", Ready.faultOf("0a=1/"), 4);
+        due("fault: minus behind a digit", Ready.faultOf("0a=1-"), 4);
     }
 
     private static void faultOfSeveralParts() {
-        due("fault: comma last", faultOf("0a=5,"), 5);
-        due("fault: comma behind 0", faultOf("0a=0,"), 5);
-        due("fault: comma behind three digits", faultOf("0a=123,"), 7);
-        due("fault: two commas", faultOf("0a=5,,"), 5);
-        due("fault: two", faultOf("0a=5,1b=-6"), -4);
-        due("fault: the same twice", faultOf("0a=5,0a=5"), -4);
-        due("fault: in the second", faultOf("0a=5,1n"), 6);
-        String twelve = "0a=1,0b=1,0c=1,0d=1,0e=1,0f=1,0g=1,0h=1,0i=1,0j=1,0k=1,0l=1";
-        due("fault: 59 signs", faultOf(twelve), -4);
-        due("fault: 60 signs", faultOf(twelve + "1"), -4);
-        due("fault: texts of any length", faultOf(twelve + ","), 60);
+        due("fault: comma last", Ready.faultOf("0a=5,"), 5);
+        due("fault: comma behind 0", Ready.faultOf("0a=0,"), 5);
+        due("fault: comma behind three digits", Ready.faultOf("0a=123,"), 7);
+        due("fault: two commas", Ready.faultOf("0a=5,,"), 5);
+        due("fault: two", Ready.faultOf("0a=5,1b=-6"), -4);
+        due("fault: the same twice", Ready.faultOf("0a=5,0a=5"), -4);
+        due("fault: in the second", Ready.faultOf("0a=5,1n"), 6);
+        due("fault: 59 signs", Ready.faultOf(Ready.TWELVE), -4);
+        due("fault: 60 signs", Ready.faultOf(Ready.TWELVE + "1"), -4);
+        due("fault: texts of any length", Ready.faultOf(Ready.TWELVE + ","), 60);
     }
 
     private static void take() {
-        LostZeros x = withTapes(2);
-        put(x, "0a=1,1a=-4,0b=999,1l=0");
+        LostZeros x = Ready.withTapes(2);
+        Ready.put(x, "0a=1,1a=-4,0b=999,1l=0");
         due("take: all", x.take(), 4);
         due("take: none refused", x.count(9), 0);
         due("take: no stop", x.why(0), -4);
         due("take: pad is empty", x.count(12), 0);
-        CHECK.dueText("take: first tape", written(x, 0), "0a=1,0b=999");
-        CHECK.dueText("take: second tape", written(x, 1), "1a=-4,1l=0");
+        CHECK.dueText("take: first tape", Ready.written(x, 0), "0a=1,0b=999");
+        CHECK.dueText("take: second tape", Ready.written(x, 1), "1a=-4,1l=0");
         due("take: counted", x.count(8), 4);
         due("take: one change", x.count(13), 3);
         due("take: undone at once", x.undo(), 2);
         due("take: nothing left of it", x.count(1), 0);
         due("take: taken are undone", x.count(8), 0);
         due("take: empty pad", x.take(), -2);
-        put(x, "0a=1,");
+        Ready.put(x, "0a=1,");
         due("take: fault", x.take(), -2);
         due("take: pad stays", x.count(12), 5);
         due("take: no change", x.count(13), 2);
-        put(x, "0a=1");
+        Ready.put(x, "0a=1");
         due("take: the second contradicts", x.take(), 1);
     }
 
     private static void takeStops() {
-        LostZeros x = withTapes(2);
-        put(x, "0a=1,0b=2,1a=5,1b=7,1c=8");
+        LostZeros x = Ready.withTapes(2);
+        Ready.put(x, "0a=1,0b=2,1a=5,1b=7,1c=8");
         due("take: up to the refused one", x.take(), 3);
         due("take: counted as refused", x.count(9), 1);
         due("take: taken", x.count(8), 3);
@@ -494,7 +443,7 @@ public final class PromiseTest {
         due("take: reason 2", x.why(0), 2);
         due("take: number", x.why(1), 3);
         due("take: position", x.why(2), 15);
-        put(x, "0a=1");
+        Ready.put(x, "0a=1");
         due("take: none", x.take(), 0);
         due("take: reason 1", x.why(0), 1);
         due("take: number 0", x.why(1), 0);
@@ -507,16 +456,16 @@ public final class PromiseTest {
     }
 
     private static void takeErrors() {
-        LostZeros x = withTapes(1);
-        put(x, "0a=-10,1a=3,0b=4");
+        LostZeros x = Ready.withTapes(1);
+        Ready.put(x, "0a=-10,1a=3,0b=4");
         due("take: no such tape", x.take(), 1);
         due("take: the error", x.why(0), -1);
         due("take: its number", x.why(1), 1);
         due("take: its position", x.why(2), 7);
         due("take: not refused", x.count(9), 0);
-        LostZeros full = withForty();
+        LostZeros full = Ready.withForty();
         full.lose(0, 9);
-        put(full, "4a=2,0a=1,4b=0");
+        Ready.put(full, "4a=2,0a=1,4b=0");
         due("take: up to 40", full.take(), 1);
         due("take: limit ahead of the reason", full.why(0), -3);
         due("take: at the second", full.why(2), 5);
@@ -524,12 +473,12 @@ public final class PromiseTest {
     }
 
     private static void why() {
-        LostZeros x = withTapes(1);
+        LostZeros x = Ready.withTapes(1);
         due("why: no call", x.why(0), -4);
         due("why: -1", x.why(-1), -1);
         due("why: 3", x.why(3), -1);
         due("why: greatest", x.why(MAX), -1);
-        put(x, "0a=1,0a=2");
+        Ready.put(x, "0a=1,0a=2");
         x.take();
         due("why: reason", x.why(0), 1);
         due("why: take with an error", x.take(), -2);
@@ -539,7 +488,7 @@ public final class PromiseTest {
         x.restore();
         due("why: not undone, not restored", x.why(1), 1);
         x.restore();
-        put(x, "0c=1");
+        Ready.put(x, "0c=1");
         due("why: all taken", x.take(), 1);
         due("why: no reason then", x.why(0), -4);
         due("why: no number then", x.why(1), -4);
@@ -548,7 +497,7 @@ public final class PromiseTest {
     }
 
     private static void sign() {
-        LostZeros x = withTapes(8);
+        LostZeros x = Ready.withTapes(8);
         due("sign: no readings", x.sign(7, 0), -4);
         x.read(7, 11, -999);
         x.read(7, 0, 0);
@@ -558,7 +507,7 @@ public final class PromiseTest {
         x.read(7, 7, -20);
         x.read(7, 8, 909);
         String text = "7a=0,7e=10,7f=5,7g=100,7h=-20,7i=909,7l=-999";
-        CHECK.dueText("sign: by rising points", written(x, 7), text);
+        CHECK.dueText("sign: by rising points", Ready.written(x, 7), text);
         due("sign: last", x.sign(7, text.length() - 1), '9');
         due("sign: behind the last", x.sign(7, text.length()), -4);
         due("sign: greatest place", x.sign(7, MAX), -4);
@@ -567,17 +516,17 @@ public final class PromiseTest {
         due("sign: tape -1", x.sign(-1, 0), -1);
         due("sign: no tape", x.sign(8, 0), -1);
         due("sign: no tape, place -1", x.sign(8, -1), -1);
-        LostZeros longest = withTapes(1);
+        LostZeros longest = Ready.withTapes(1);
         StringBuilder all = new StringBuilder();
         for (int point = 0; point < 12; point++) {
             longest.read(0, point, -999);
             all.append(point > 0 ? "," : "").append("0").append((char) ('a' + point)).append("=-999");
         }
-        CHECK.dueText("sign: the longest text", written(longest, 0), all.toString());
+        CHECK.dueText("sign: the longest text", Ready.written(longest, 0), all.toString());
     }
 
     private static void reading() {
-        LostZeros x = withTapes(2);
+        LostZeros x = Ready.withTapes(2);
         x.read(0, 0, -999);
         x.read(0, 11, 999);
         x.read(1, 11, 0);
@@ -593,7 +542,7 @@ public final class PromiseTest {
     }
 
     private static void difference() {
-        LostZeros x = withTapes(3);
+        LostZeros x = Ready.withTapes(3);
         x.read(0, 0, 10);
         x.read(0, 5, 25);
         x.read(1, 5, 0);
@@ -620,7 +569,7 @@ public final class PromiseTest {
     }
 
     private static void differenceOfLongChain() {
-        LostZeros x = withTapes(8);
+        LostZeros x = Ready.withTapes(8);
         for (int tape = 0; tape < 8; tape++) {
             x.read(tape, 11 - tape, -999);
             x.read(tape, 10 - tape, 999);
@@ -637,7 +586,7 @@ public final class PromiseTest {
     }
 
     private static void follows() {
-        LostZeros x = withTapes(3);
+        LostZeros x = Ready.withTapes(3);
         x.read(0, 0, 10);
         x.read(0, 1, -7);
         x.read(1, 1, 999);
@@ -653,7 +602,7 @@ public final class PromiseTest {
     }
 
     private static void zeros() {
-        LostZeros x = withTapes(3);
+        LostZeros x = Ready.withTapes(3);
         x.read(0, 4, 10);
         x.read(1, 4, 3);
         due("zeros: second behind", x.zeros(0, 1), 100007);
@@ -669,7 +618,7 @@ public final class PromiseTest {
     }
 
     private static void whyNot() {
-        LostZeros x = withTapes(3);
+        LostZeros x = Ready.withTapes(3);
         x.read(0, 0, 10);
         x.read(0, 1, 20);
         x.read(1, 1, 5);
@@ -690,7 +639,7 @@ public final class PromiseTest {
     }
 
     private static void holding() {
-        LostZeros x = withTapes(4);
+        LostZeros x = Ready.withTapes(4);
         for (int way = 0; way <= 1; way++) {
             due("holding: none", x.holding(way), 0);
         }
@@ -728,7 +677,7 @@ public final class PromiseTest {
     }
 
     private static void point() {
-        LostZeros x = withTapes(3);
+        LostZeros x = Ready.withTapes(3);
         x.read(0, 6, 50);
         x.read(0, 2, 10);
         x.read(1, 6, 0);
@@ -755,7 +704,7 @@ public final class PromiseTest {
     }
 
     private static void pointsAtOnePlace() {
-        LostZeros x = withTapes(1);
+        LostZeros x = Ready.withTapes(1);
         x.read(0, 8, 5);
         x.read(0, 3, 5);
         x.read(0, 5, 5);
@@ -781,7 +730,7 @@ public final class PromiseTest {
     }
 
     private static void tapeOf() {
-        LostZeros x = withTapes(4);
+        LostZeros x = Ready.withTapes(4);
         x.read(0, 7, 40);
         x.read(0, 3, -10);
         x.read(0, 5, -10);
@@ -821,7 +770,7 @@ public final class PromiseTest {
     }
 
     private static void countOfGroups() {
-        LostZeros x = withTapes(4);
+        LostZeros x = Ready.withTapes(4);
         int[] bare = {4, 0, 12, 0, 0, 0, 12, 4};
         for (int what = 0; what < bare.length; what++) {
             due("count: without readings, " + what, x.count(what), bare[what]);
@@ -843,7 +792,7 @@ public final class PromiseTest {
     }
 
     private static void countOfDeeds() {
-        LostZeros x = withTapes(2);
+        LostZeros x = Ready.withTapes(2);
         x.read(0, 0, 1);
         x.read(0, 0, 1);
         x.lose(1, 1);
@@ -858,16 +807,16 @@ public final class PromiseTest {
         due("count: glued, first", x.count(11), 1);
         x.cut(0, 0);
         due("count: cuts, second", x.count(10), 2);
-        put(x, "0");
+        Ready.put(x, "0");
         due("count: pad", x.count(12), 1);
-        x = withTapes(1);
+        x = Ready.withTapes(1);
         x.read(0, 3, -500);
         x.read(0, 4, -510);
         due("count: points, not zeros, are far", x.count(5), 10);
     }
 
     private static void known() {
-        LostZeros x = withTapes(1);
+        LostZeros x = Ready.withTapes(1);
         x.read(0, 0, 0);
         CHECK.dueDouble("known: one reading", x.known(), 0.0);
         x.read(0, 1, 0);
@@ -884,7 +833,7 @@ public final class PromiseTest {
     }
 
     private static void ifRead() {
-        LostZeros x = withTapes(3);
+        LostZeros x = Ready.withTapes(3);
         due("ifRead: nothing read", x.ifRead(0, 0), 0);
         x.read(0, 0, 1);
         x.read(0, 1, 2);
@@ -906,14 +855,14 @@ public final class PromiseTest {
     }
 
     private static void bestReading() {
-        LostZeros x = withTapes(3);
+        LostZeros x = Ready.withTapes(3);
         due("bestReading: none tells", x.bestReading(), 0);
         x.read(0, 7, 5);
         due("bestReading: of the tape 0", x.bestReading(), 0);
         x.read(2, 8, 5);
         x.read(2, 9, 5);
         due("bestReading: of the tape 0, at another point", x.bestReading(), 8);
-        x = withTapes(3);
+        x = Ready.withTapes(3);
         x.read(2, 5, 0);
         due("bestReading: one point", x.bestReading(), 24);
         x.read(1, 0, 0);
@@ -931,9 +880,9 @@ public final class PromiseTest {
     }
 
     private static void undo() {
-        LostZeros x = withTapes(1);
+        LostZeros x = Ready.withTapes(1);
         x.read(0, 0, 5);
-        put(x, "0b=");
+        Ready.put(x, "0b=");
         x.save();
         due("undo: read", x.undo(), 1);
         due("undo: no reading", x.count(1), 0);
@@ -948,7 +897,18 @@ public final class PromiseTest {
     }
 
     private static void undoOfEachChange() {
-        LostZeros x = withTapes(3);
+        for (int change = 0; change < 16; change++) {
+            LostZeros x = withRoomForOneState();
+            String before = Views.state(x);
+            due("undo: the change " + change, change(x, change) >= 0 ? 1 : 0, 1);
+            due("undo: states with the change " + change, x.count(13), 4);
+            due("undo: states after it", x.undo(), 3);
+            CHECK.dueText("undo: after the change " + change, Views.state(x), before);
+        }
+    }
+
+    private static LostZeros withRoomForOneState() {
+        LostZeros x = Ready.withTapes(3);
         x.read(0, 0, 5);
         x.read(0, 1, 15);
         x.read(1, 1, 0);
@@ -956,13 +916,7 @@ public final class PromiseTest {
         x.read(2, 2, 2);
         x.shift(0, 0);
         due("undo: room for one state", x.undo(), 3);
-        String before = told(x);
-        for (int change = 0; change < 16; change++) {
-            due("undo: the change " + change, change(x, change) >= 0 ? 1 : 0, 1);
-            due("undo: states with the change " + change, x.count(13), 4);
-            due("undo: states after it", x.undo(), 3);
-            CHECK.dueText("undo: after the change " + change, told(x), before);
-        }
+        return x;
     }
 
     private static int change(LostZeros x, int change) {
@@ -981,7 +935,7 @@ public final class PromiseTest {
             case 11: return x.cut(0, -999);
             case 12: return x.glue(1, 0);
             case 13: return x.glue(0, 2);
-            case 14: put(x, "2l=1,2k=7,2k=8"); return x.take();
+            case 14: Ready.put(x, "2l=1,2k=7,2k=8"); return x.take();
             default: return x.restore();
         }
     }
@@ -1004,7 +958,7 @@ public final class PromiseTest {
     }
 
     private static void save() {
-        LostZeros x = withTapes(1);
+        LostZeros x = Ready.withTapes(1);
         due("save: none", x.save(), 0);
         x.read(0, 0, 1);
         x.read(0, 1, 1);
@@ -1016,38 +970,38 @@ public final class PromiseTest {
     }
 
     private static void restore() {
-        LostZeros x = withTapes(2);
+        LostZeros x = Ready.withTapes(2);
         due("restore: none", x.restore(), -2);
         x.read(0, 0, 1);
         x.read(0, 0, 2);
         x.cut(0, 0);
         x.save();
-        String saved = told(x);
+        String saved = Views.state(x);
         x.read(1, 1, 1);
         x.drop(0);
         x.cut(0, 0);
         x.lose(0, 0);
-        put(x, "0a=");
-        String before = told(x);
+        Ready.put(x, "0a=");
+        String before = Views.state(x);
         due("restore: readings", x.restore(), 1);
-        CHECK.dueText("restore: all of it", told(x), saved);
+        CHECK.dueText("restore: all of it", Views.state(x), saved);
         due("restore: pad stays", x.count(12), 3);
         due("restore: a change", x.count(13), 4);
         due("restore: undone", x.undo(), 3);
-        CHECK.dueText("restore: what was before it", told(x), before);
+        CHECK.dueText("restore: what was before it", Views.state(x), before);
         x.restore();
         x.read(1, 2, 3);
         due("restore: it stays", x.restore(), 1);
-        CHECK.dueText("restore: unchanged", told(x), saved);
+        CHECK.dueText("restore: unchanged", Views.state(x), saved);
     }
 
     private static void errorsChangeNothing() {
-        LostZeros x = withForty();
+        LostZeros x = Ready.withForty();
         x.tape();
         x.tape();
         x.tape();
-        put(x, "0a=1000");
-        String before = told(x);
+        Ready.put(x, "0a=1000");
+        String before = Views.state(x);
         int[] answers = {
             x.tape(), x.drop(8), x.shift(0, 1000), x.cut(0, 1000), x.cut(0, 0), x.glue(0, 0),
             x.read(0, 0, 1000), x.read(4, 0, 0), x.lose(0, 12), x.append(32), x.take(), x.restore()
@@ -1055,15 +1009,15 @@ public final class PromiseTest {
         for (int answer : answers) {
             due("errors: all are errors", answer < 0 ? 1 : 0, 1);
         }
-        CHECK.dueText("errors: nothing is changed", told(x), before);
+        CHECK.dueText("errors: nothing is changed", Views.state(x), before);
         due("errors: the pad stays", x.count(12), 7);
         due("errors: no states", x.undo(), 3);
         due("errors: the latest change is undone", x.count(0), 7);
     }
 
     private static void looksChangeNothing() {
-        LostZeros x = withForty();
-        String before = told(x);
+        LostZeros x = Ready.withForty();
+        String before = Views.state(x);
         for (int number = 0; number < 14; number++) {
             x.count(number);
             x.point(number, 2);
@@ -1082,7 +1036,7 @@ public final class PromiseTest {
         x.bestReading();
         x.fault();
         x.why(0);
-        CHECK.dueText("looks: nothing is changed", told(x), before);
+        CHECK.dueText("looks: nothing is changed", Views.state(x), before);
         due("looks: no states", x.undo(), 3);
         due("looks: the latest change is undone", x.count(1), 39);
     }
