@@ -44,6 +44,7 @@ public final class DeedEdgesTest {
         glueInsideAndOutsideAbove();
         glueInsideAndOutsideBelow();
         glueKeepsWhatIsThere();
+        glueReadsAsItWould();
         glueOfWholeTapes();
         refusedIsCountedAlone();
         CHECK.end();
@@ -522,6 +523,28 @@ public final class DeedEdgesTest {
         dueWritten("glue: as it was", x, "0a=10,0b=20;");
         due("glue: two readings less", x.count(1), 2);
         due("glue: glued", x.count(11), 1);
+    }
+
+    /** "as it would read there": each of three tapes may be the one, and the other one. */
+    private static void glueReadsAsItWould() {
+        String[] wants = {
+            "0a=10,0b=20,0c=30;1a=0,1d=7;", "0a=10,0b=20,0d=17;1b=-500,1c=-490;",
+            "0a=0,0b=10,0d=7;1b=-500,1c=-490;", "0a=10,0b=20;1a=0,1b=10,1c=20,1d=7;",
+            "0a=0,0d=7;1a=-510,1b=-500,1c=-490;",
+            "0a=10,0b=20;1a=-510,1b=-500,1c=-490,1d=-503;"
+        };
+        int[][] pairs = {{0, 2}, {0, 1}, {1, 0}, {1, 2}, {2, 0}, {2, 1}};
+        for (int pair = 0; pair < pairs.length; pair++) {
+            LostZeros x = Ready.withTapes(3);
+            x.read(0, 0, 10);
+            x.read(0, 1, 20);
+            x.read(1, 0, 0);
+            x.read(1, 3, 7);
+            x.read(2, 1, -500);
+            x.read(2, 2, -490);
+            x.glue(pairs[pair][0], pairs[pair][1]);
+            dueWritten("glue: the pair " + pair, x, wants[pair]);
+        }
     }
 
     /** The most that can be got: the other one has a reading at each point. */

@@ -59,6 +59,7 @@ public final class LookEdgesTest {
         bestTellsNothing();
         bestOfSeveralTheLeast();
         bestAtTheLastPlace();
+        looksWithAllReadings();
         looksChangeNothing();
         CHECK.end();
     }
@@ -591,6 +592,8 @@ public final class LookEdgesTest {
         due("greatest: 1", x.count(5), 1);
         x.read(1, 0, 999);
         due("greatest: 1998", x.count(5), 1998);
+        x.lose(0, 2);
+        due("greatest: 1998, to the point 0 alone", x.count(5), 1998);
         x.lose(1, 0);
         due("greatest: 1 again", x.count(5), 1);
     }
@@ -751,6 +754,12 @@ public final class LookEdgesTest {
     /** "of several the least number": of one tape, and of two. */
     private static void bestOfSeveralTheLeast() {
         LostZeros x = Ready.withTapes(3);
+        x.read(0, 5, 0);
+        due("best: the least number of all", x.bestReading(), 0);
+        x.lose(0, 5);
+        x.read(1, 5, 0);
+        due("best: of one tape the point 0", x.bestReading(), 12);
+        x.lose(1, 5);
         x.read(1, 0, 0);
         due("best: of one tape the lowest point", x.bestReading(), 13);
         x.read(2, 1, 0);
@@ -772,6 +781,27 @@ public final class LookEdgesTest {
         due("best: what it tells", x.ifRead(7, 11), 11);
         x.drop(0);
         due("best: one has gone", x.bestReading(), 83);
+    }
+
+    /** With 8 tapes and 40 readings: the zero of each tape stands at its number, the points 10 apart. */
+    private static void looksWithAllReadings() {
+        for (int tape = 0; tape < 8; tape++) {
+            LostZeros x = Ready.withAll();
+            for (int point = 0; point < 12; point++) {
+                int number = 10 * point - tape;
+                boolean there = x.reading(tape, point) != -4;
+                due("all: reading", x.reading(tape, point), there ? 100000 + number : -4);
+                due("all: follows", x.follows(tape, point), 100000 + number);
+                due("all: whyNot", x.whyNot(tape, point, number), there ? 1 : 0);
+                due("all: whyNot, another", x.whyNot(tape, point, number + 1), there ? 1 : 2);
+                due("all: ifRead", x.ifRead(tape, point), 0);
+            }
+            for (int other = 0; other < 8; other++) {
+                due("all: zeros", x.zeros(tape, other), 100000 + other - tape);
+            }
+            due("all: readings of a tape", x.tapeOf(tape, 0), 5);
+            due("all: tapes together", x.tapeOf(tape, 4), 8);
+        }
     }
 
     /** "looks; nothing is changed", "what would be; nothing is changed" */
